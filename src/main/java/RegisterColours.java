@@ -131,17 +131,18 @@ public final class RegisterColours {
         return what == 1 ? reader.faultPlace : NONE;
     }
 
-    public int input(int v, boolean told) {
-        if (!told) {
-            this.told.inputs = 0;
-        } else if (this.told.inputs >= MOST_INPUT) {
+    public int input(int v, boolean isTold) {
+        if (isTold && told.inputs >= MOST_INPUT) {
             return NONE;
+        }
+        if (isTold) {
+            told.input[told.inputs] = v;
+            told.inputs++;
         } else {
-            this.told.input[this.told.inputs] = v;
-            this.told.inputs++;
+            told.inputs = 0;
         }
         latestRun = NONE;
-        return this.told.inputs;
+        return told.inputs;
     }
 
     public int allocate() {

@@ -1,0 +1,161 @@
+import java.util.Map;
+import java.util.Random;
+import java.util.TreeMap;
+
+/** Codes and texts drawn by lot (always the same lot): every answer of the program beside the model's. */
+public final class AgainstModelTest {
+    private static int wrong = 0;
+    private static long asked = 0;
+    private static final Map<String, Integer> SEEN = new TreeMap<>();
+    private static String told = "";
+
+    public static void main(String[] args) {
+        int codes = args.length > 0 ? Integer.parseInt(args[0]) : 800;
+        int seed = args.length > 1 ? Integer.parseInt(args[1]) : 7;
+        for (int i = 0; i < codes && wrong < 20; i++) {
+            compareCode(new Random(seed * 1000003L + i));
+        }
+        for (int i = 0; i < 20 * codes && wrong < 20; i++) {
+            compareText(new Random(-seed * 1000003L - i));
+        }
+        System.out.println(asked + " answers asked; seen: " + SEEN);
+        System.out.println(wrong == 0 ? "all answers are the model's" : wrong + " answers are not the model's");
+        if (wrong != 0) {
+            System.exit(1);
+        }
+    }
+
+    private static void seen(String what) {
+        SEEN.merge(what, 1, Integer::sum);
+    }
+
+    private static void same(String call, long got, long want) {
+        asked++;
+        if (got != want) {
+            wrong++;
+            System.out.println(told + "\n  " + call + " answered " + got + ", the model " + want);
+        }
+    }
+
+    // ---- codes that are sound ----
+
+    private static void compareCode(Random lot) {
+        RegisterColours x = new RegisterColours();
+        Twin twin = new Twin();
+        setBoth(lot, x, twin);
+        told = lot.nextInt(3) == 0 ? Lot.pressed(lot) : Lot.code(lot);
+        tellBoth(x, twin);
+        told += " K" + twin.look(2) + " M" + twin.look(3) + " C" + twin.look(4);
+        compareGraph(x, twin);
+        int rounds = twin.allocate();
+        same("allocate()", x.allocate(), rounds);
+        seen(rounds == -1 ? "fails, " + twin.model.whyFailed : "rounds " + rounds);
+        for (int what = -1; what <= 11; what++) {
+            same("look(" + what + ")", x.look(what), twin.look(what));
+        }
+        compareRuns(x, twin);
+        compareLeft(x, twin);
+    }
+
+    private static void tellBoth(RegisterColours x, Twin twin) {
+        for (int[] five : Lot.fives(told)) {
+            x.feed(five[0], five[1], five[2], five[3], five[4]);
+            twin.feed(five);
+        }
+        x.end(told.length());
+        twin.end(told.length());
+        same("code()", x.code(), twin.code());
+        same("fault(0)", x.fault(0), twin.fault(0));
+        same("fault(1)", x.fault(1), twin.fault(1));
+    }
+
+    private static void setBoth(Random lot, RegisterColours x, Twin twin) {
+        int[] v = {2 + lot.nextInt(7), 1 + lot.nextInt(4), 0};
+        v[2] = 1 + lot.nextInt(v[0]);
+        for (int what = 0; what < 3; what++) {
+            same("set", x.set(what, v[what]) ? 1 : 0, twin.set(what, v[what]) ? 1 : 0);
+        }
+        for (int i = lot.nextInt(17); i > 0; i--) {
+            int number = lot.nextInt(3) == 0 ? lot.nextInt() : lot.nextInt(20) - 5;
+            same("input", x.input(number, true), twin.input(number, true));
+        }
+        for (int i = 0; i < 12; i++) {
+            int colour = lot.nextInt(4) - 1;
+            int which = lot.nextInt(24);
+            same("paint", x.paint(which, colour) ? 1 : 0, twin.paint(which, colour) ? 1 : 0);
+        }
+    }
+
+    private static void compareGraph(RegisterColours x, Twin twin) {
+        compareSteps(x, twin, false);
+        for (int v = -1; v <= 44; v++) {
+            for (int i = -1; i <= twin.look(1); i++) {
+                same("live(" + i + ", " + v + ")", x.live(i, v), twin.live(i, v));
+            }
+            for (int y = -1; y <= 44; y++) {
+                same("edge(" + v + ", " + y + ")", x.edge(v, y), twin.edge(v, y));
+            }
+            for (int what = -1; what <= 5; what++) {
+                same("value(" + v + ", " + what + ")", x.value(v, what), twin.value(v, what));
+            }
+        }
+        for (int what = -1; what <= 4; what++) {
+            same("graph(" + what + ")", x.graph(what), twin.graph(what));
+        }
+        seen(twin.graph(0) == 1 ? "chordal" : "not chordal");
+    }
+
+    private static void compareSteps(RegisterColours x, Twin twin, boolean left) {
+        int count = left ? twin.left(1) : twin.look(1);
+        for (int i = -1; i <= count; i++) {
+            for (int what = -1; what <= 9; what++) {
+                same("step(" + i + ", " + left + ", " + what + ")", x.step(i, left, what), twin.step(i, left, what));
+            }
+        }
+    }
+
+    private static void compareRuns(RegisterColours x, Twin twin) {
+        for (int which = -1; which <= 2; which++) {
+            for (int what = -1; what <= 4; what++) {
+                same("run(" + which + ", " + what + ")", x.run(which, what), twin.run(which, what));
+            }
+        }
+        // A VALUE read before it is made is 0 in RUN 0, but its number if it was MADE ANEW.
+        boolean comparable = twin.left(4) == 0 || twin.model.drawn().live.get(0).isEmpty();
+        if (comparable && twin.run(0, 0) == 0 && twin.run(1, 0) == 0) {
+            seen("both runs at the end");
+            same("both runs put out alike", x.run(1, 3), x.run(0, 3));
+            same("both runs put out as often", x.run(1, 2), x.run(0, 2));
+        }
+    }
+
+    private static void compareLeft(RegisterColours x, Twin twin) {
+        compareSteps(x, twin, true);
+        for (int v = -1; v <= 200; v++) {
+            for (int what = -1; what <= 3; what++) {
+                same("colour(" + v + ", " + what + ")", x.colour(v, what), twin.colour(v, what));
+            }
+        }
+        for (int what = -1; what <= 12; what++) {
+            same("left(" + what + ")", x.left(what), twin.left(what));
+        }
+        same("proved()", x.proved(), twin.proved());
+        seen("proved " + twin.proved());
+        if (twin.left(4) > 0) {
+            seen("made anew");
+        }
+        if (twin.left(11) > 0) {
+            seen("heavy but coloured");
+        }
+    }
+
+    // ---- texts that may have FAULTS ----
+
+    private static void compareText(Random lot) {
+        RegisterColours x = new RegisterColours();
+        Twin twin = new Twin();
+        told = Lot.spoilt(lot);
+        tellBoth(x, twin);
+        seen("fault " + twin.fault(0));
+    }
+}
