@@ -12,8 +12,11 @@ public final class AgainstModelTest {
     public static void main(String[] args) {
         int codes = args.length > 0 ? Integer.parseInt(args[0]) : 800;
         int seed = args.length > 1 ? Integer.parseInt(args[1]) : 7;
+        compareLongOnes();
         for (int i = 0; i < codes && wrong < 20; i++) {
-            compareCode(new Random(seed * 1000003L + i));
+            Random lot = new Random(seed * 1000003L + i);
+            int k = 2 + lot.nextInt(7);
+            compareCode(lot, k, 1 + lot.nextInt(k), lot.nextInt(3) == 0 ? Lot.pressed(lot) : Lot.code(lot));
         }
         for (int i = 0; i < 20 * codes && wrong < 20; i++) {
             compareText(new Random(-seed * 1000003L - i));
@@ -39,11 +42,33 @@ public final class AgainstModelTest {
 
     // ---- codes that are sound ----
 
-    private static void compareCode(Random lot) {
+    /** Found by search: with K 2 the first take just eight ROUNDS, the others would take nine. */
+    private static final String[] EIGHT = {
+        "if v12<v6 goto 5;if v11<v6 goto 0;v3=low d3;out v13;out v11;out v6;v3=v9;v3=v10;if v3<v9 goto 11;if v1<v11 goto 12;out v1;v2=v2;"
+            + "out v3;v2=in;d2=v10*v9;v8=v9;",
+        "out v9;out v11;v5=low d3;out v8;v6=v9;if v4<v13 goto 10;out v10;v7=v9;out v6;out v10;v6=in;v6=v3;",
+        "if v8<v9 goto 3;out v4;out v2;if v9<v12 goto 12;out v8;v7=low d0;v10=v12;v11=low d2;v13=v5;out v13;out v1;out v13;out v2;out v9;",
+        "out v5;v9=low d3;if v4<v12 goto 8;v1=v0;v9=in;out v13;if v11<v9 goto 6;v7=v3;v5=in;if v2<v8 goto 9;d2=v5*v3;v7=v11;",
+    };
+    private static final String[] NINE = {
+        "if v7<v3 goto 5;v0=low d0;out v3;v10=v8;v2=v7;v5=v2;v9=v7;v10=in;v3=v7;v12=in;d1=d1;out v11;v1=v12;if v1<v12 goto 3;",
+        "if v7<v0 goto 7;out v5;v1=low d0;if v7<v3 goto 5;v3=v0;out v0;v13=v9;out v13;v12=v0;if v9<v13 goto 4;",
+    };
+
+    private static void compareLongOnes() {
+        for (String text : EIGHT) {
+            same("eight ROUNDS of " + text, compareCode(new Random(8), 2, 2, text), 8);
+        }
+        for (String text : NINE) {
+            same("nine ROUNDS of " + text, compareCode(new Random(9), 2, 2, text), -1);
+        }
+    }
+
+    private static int compareCode(Random lot, int k, int clobbered, String text) {
         RegisterColours x = new RegisterColours();
         Twin twin = new Twin();
-        setBoth(lot, x, twin);
-        told = lot.nextInt(3) == 0 ? Lot.pressed(lot) : Lot.code(lot);
+        setBoth(lot, x, twin, new int[] {k, 1 + lot.nextInt(4), clobbered});
+        told = text;
         tellBoth(x, twin);
         told += " K" + twin.look(2) + " M" + twin.look(3) + " C" + twin.look(4);
         compareGraph(x, twin);
@@ -55,6 +80,7 @@ public final class AgainstModelTest {
         }
         compareRuns(x, twin);
         compareLeft(x, twin);
+        return x.left(0);
     }
 
     private static void tellBoth(RegisterColours x, Twin twin) {
@@ -69,9 +95,7 @@ public final class AgainstModelTest {
         same("fault(1)", x.fault(1), twin.fault(1));
     }
 
-    private static void setBoth(Random lot, RegisterColours x, Twin twin) {
-        int[] v = {2 + lot.nextInt(7), 1 + lot.nextInt(4), 0};
-        v[2] = 1 + lot.nextInt(v[0]);
+    private static void setBoth(Random lot, RegisterColours x, Twin twin, int[] v) {
         for (int what = 0; what < 3; what++) {
             same("set", x.set(what, v[what]) ? 1 : 0, twin.set(what, v[what]) ? 1 : 0);
         }

@@ -622,6 +622,8 @@ public final class PromisesTest {
             due("allocate()", x.allocate(), 1);
             due("a FAULT", tell(x, "v0=1"), NONE);
             x.feed(0, 0, 0, 0, 0);
+            due("of the other code", x.edge(1, 8), 0);
+            due("of the other code", x.run(1, 1), 1);
             due("gone back", x.image(false), true);
             due("the TAPE stays", x.end(20), true);
             due("fault() stays", x.fault(1), 4);
