@@ -1,9 +1,5 @@
 /** Promise by promise, with answers worked out by hand from the document. */
-public final class PromisesTest {
-    private static final int NONE = -1;
-    private static int wrong = 0;
-    private static int promise = 0;
-
+public final class PromisesTest extends Asked {
     public static void main(String[] args) {
         newObject();
         setting();
@@ -30,69 +26,13 @@ public final class PromisesTest {
         painting();
         images();
         looking();
-        System.out.println(wrong == 0 ? "all promises held" : wrong + " answers are not as due");
-        if (wrong != 0) {
-            System.exit(1);
-        }
-    }
-
-    private static void due(String call, long got, long want) {
-        if (got != want) {
-            wrong++;
-            System.out.println("promise " + promise + ": " + call + " answered " + got + ", due is " + want);
-        }
-    }
-
-    private static void due(String call, boolean got, boolean want) {
-        due(call, got ? 1 : 0, want ? 1 : 0);
-    }
-
-    private static RegisterColours with(int k, int m, int clobbered, String text) {
-        RegisterColours x = new RegisterColours();
-        due("set K", x.set(0, k), true);
-        due("set M", x.set(1, m), true);
-        due("set CLOBBERED", x.set(2, clobbered), true);
-        due(text, tell(x, text) >= 0, true);
-        return x;
-    }
-
-    private static int tell(RegisterColours x, String text) {
-        x.end(0);
-        for (int[] f : Lot.fives(text)) {
-            x.feed(f[0], f[1], f[2], f[3], f[4]);
-        }
-        due("end", x.end(text.length()), true);
-        return x.code();
-    }
-
-    private static void steps(RegisterColours x, boolean left, int[][] due) {
-        for (int i = 0; i < due.length; i++) {
-            for (int what = 0; what < due[i].length; what++) {
-                due("step(" + i + ", " + left + ", " + what + ")", x.step(i, left, what), due[i][what]);
-            }
-        }
-        due("step behind all", x.step(due.length, left, 0), NONE);
-        due("step ahead of all", x.step(-1, left, 0), NONE);
-    }
-
-    private static void row(String call, int[] got, int... want) {
-        for (int i = 0; i < want.length; i++) {
-            due(call + i + ")", got[i], want[i]);
-        }
-    }
-
-    private static int[] lefts(RegisterColours x) {
-        int[] all = new int[12];
-        for (int what = 0; what < 12; what++) {
-            all[what] = x.left(what);
-        }
-        return all;
+        endOfTest();
     }
 
     // ---- 1 to 8 ----
 
     private static void newObject() {
-        promise = 1;
+        sentence("Promise 1");
         RegisterColours x = new RegisterColours();
         due("NONE", RegisterColours.NONE, -1);
         int[] looks = new int[11];
@@ -111,7 +51,7 @@ public final class PromisesTest {
     }
 
     private static void setting() {
-        promise = 2;
+        sentence("Promise 2");
         RegisterColours x = new RegisterColours();
         int[][] wrongOnes = {{0, 1}, {0, 9}, {0, -2}, {1, 0}, {1, 5}, {2, 0}, {2, 5}, {3, 1}, {-1, 4},
             {Integer.MIN_VALUE, 2}, {0, Integer.MAX_VALUE}};
@@ -143,7 +83,7 @@ public final class PromisesTest {
     }
 
     private static void feeding() {
-        promise = 3;
+        sentence("Promise 3");
         RegisterColours x = new RegisterColours();
         // "out " "v23;" "out " "w7; " and five blanks: highest byte first.
         due("feed", x.feed(0x6f757420, 0x7632333b, 0x6f757420, 0x77373b20, 0x20202020), 20);
@@ -163,7 +103,7 @@ public final class PromisesTest {
     }
 
     private static void ending() {
-        promise = 4;
+        sentence("Promise 4");
         RegisterColours x = new RegisterColours();
         due("feed", x.feed(0x76303d31, 0x3b76303d, 0x20202020, 0x20202020, 0x20202020), 20);
         due("end(-1)", x.end(-1), false);
@@ -178,7 +118,7 @@ public final class PromisesTest {
     }
 
     private static void codes() {
-        promise = 5;
+        sentence("Promise 5");
         RegisterColours x = new RegisterColours();
         due("blanks", tell(x, " \n \n"), 0);
         due("code", tell(x, "v0 = 7 ;\n out\nv 0;"), 2);
@@ -200,7 +140,7 @@ public final class PromisesTest {
     }
 
     private static void faults() {
-        promise = 6;
+        sentence("Promise 6");
         String lines = "v0=1;".repeat(40);
         Object[][] table = {
             {"v0=1;x", 1, 5}, {"v0=1", 1, 4}, {"v0=1  ", 1, 6}, {"v", 1, 1}, {";", 1, 0}, {"=", 1, 0}, {"5;", 1, 0},
@@ -232,7 +172,7 @@ public final class PromisesTest {
     }
 
     private static void inputs() {
-        promise = 7;
+        sentence("Promise 7");
         RegisterColours x = new RegisterColours();
         for (int i = 1; i <= 16; i++) {
             due("input", x.input(Integer.MIN_VALUE + i, true), i);
@@ -249,7 +189,7 @@ public final class PromisesTest {
     }
 
     private static void allocating() {
-        promise = 8;
+        sentence("Promise 8");
         RegisterColours x = with(4, 1, 1, "w0=in;w1=in;w0=w0+w1;out w0;");
         due("two of class B read at once, M 1: it FAILS", x.allocate(), NONE);
         due("nothing left", x.look(10), 0);
@@ -263,7 +203,7 @@ public final class PromisesTest {
     // ---- 9 ----
 
     private static void stepsOfCode() {
-        promise = 9;
+        sentence("Promise 9");
         RegisterColours x = with(4, 2, 1, "v0=5;w0=in;v1=v0;w1=w0;v2=w1;w2=v2;v3=v0+v1;v4=v3-v1;v5=v4*v3;d0=v4*v5;d1=d0;"
             + "v6=low d1;v7=high d1;v8=call v7;if v6<v8 goto 16;goto 0;out v8;out w2;");
         steps(x, false, new int[][] {
@@ -288,7 +228,7 @@ public final class PromisesTest {
     }
 
     private static void stepsLeft() {
-        promise = 9;
+        sentence("Promise 9");
         // v0 lives over the call, which makes both registers other: it goes into a SLOT.
         RegisterColours x = with(2, 1, 2, "v0=in;v1=in;v2=call v1;out v0;out v2;");
         due("allocate()", x.allocate(), 2);
@@ -317,7 +257,7 @@ public final class PromisesTest {
     private static final String LOOP = "v0=in;v1=in;v1=v1-v0;if v0<v1 goto 2;out v1;";
 
     private static void liveSets() {
-        promise = 10;
+        sentence("Promise 10");
         RegisterColours x = with(4, 2, 2, LOOP);
         int[][] due = {{0, 0}, {1, 0}, {1, 1}, {1, 1}, {0, 1}};
         for (int i = 0; i < due.length; i++) {
@@ -341,7 +281,7 @@ public final class PromisesTest {
     }
 
     private static void values() {
-        promise = 11;
+        sentence("Promise 11");
         RegisterColours x = with(4, 2, 2, LOOP);
         int[] got = new int[5];
         int[][] rows = {{8, 1, 21, 1, 4, 0}, {9, 1, 32, 1, 4, 0}, {10, 0, 0, 0, 4, 0}, {32, 0, 0, 0, 2, 0}, {40, 0, 0, 0, 2, 0},
@@ -374,7 +314,7 @@ public final class PromisesTest {
     private static final String PAIRS = "v0=in;v1=in;d0=v0*v1;d1=v1*v0;v2=low d0;v3=high d1;out v2;out v3;";
 
     private static void edges() {
-        promise = 12;
+        sentence("Promise 12");
         RegisterColours x = with(4, 2, 1, PAIRS);
         int[] are = {8, 9, 40, 8, 40, 9, 41, 40, 10, 41, 11, 10};
         for (int i = 0; i < are.length; i += 2) {
@@ -403,7 +343,7 @@ public final class PromisesTest {
     // ---- 13, 14 ----
 
     private static void colours() {
-        promise = 13;
+        sentence("Promise 13");
         RegisterColours x = with(4, 2, 1, "v0=in;v1=in;v2=call v1;out v0;out v2;");
         due("nothing left yet", x.colour(8, 0), NONE);
         due("nothing left yet", x.colour(8, 1), NONE);
@@ -429,7 +369,7 @@ public final class PromisesTest {
     }
 
     private static void coloursOfPairs() {
-        promise = 13;
+        sentence("Promise 13");
         RegisterColours x = with(4, 2, 1, PAIRS);
         due("allocate()", x.allocate(), 1);
         row("colours ", new int[] {x.colour(40, 0), x.colour(41, 0), x.colour(8, 0), x.colour(9, 0), x.colour(10, 0),
@@ -441,7 +381,7 @@ public final class PromisesTest {
     }
 
     private static void leftOver() {
-        promise = 14;
+        sentence("Promise 14");
         RegisterColours x = with(4, 2, 1, "v0=in;v1=in;v2=call v1;out v0;out v2;");
         due("nothing yet", x.left(0), NONE);
         x.allocate();
@@ -459,7 +399,7 @@ public final class PromisesTest {
     }
 
     private static void leftOverOfClassB() {
-        promise = 14;
+        sentence("Promise 14");
         String text = "w0=in;w1=in;w2=w0;out w1;out w2;";
         RegisterColours x = with(4, 2, 1, text);
         due("M 2: merged", x.allocate(), 1);
@@ -480,7 +420,7 @@ public final class PromisesTest {
     private static final String RING = "v0=in;v1=in;out v0;v2=in;out v1;v3=in;out v2;v0=in;out v3;if v0<v0 goto 1;";
 
     private static void optimistic() {
-        promise = 14;
+        sentence("Promise 14");
         RegisterColours x = with(2, 1, 1, RING);
         due("allocate()", x.allocate(), 1);
         due("HEAVY, yet coloured", x.left(11), 1);
@@ -490,7 +430,7 @@ public final class PromisesTest {
     // ---- 15, 16 ----
 
     private static void running() {
-        promise = 15;
+        sentence("Promise 15");
         RegisterColours x = with(4, 2, 1, "v0=in;v1=in;v2=call v1;out v0;out v2;");
         x.input(4, true);
         x.input(5, true);
@@ -522,7 +462,7 @@ public final class PromisesTest {
     }
 
     private static void runningOutOfSteps() {
-        promise = 15;
+        sentence("Promise 15");
         String text = "v0=0;v1=1;v2=998;v0=v0+v1;if v0<v2 goto 3;out v0;";
         RegisterColours x = with(4, 2, 1, text);
         x.allocate();
@@ -543,7 +483,7 @@ public final class PromisesTest {
     }
 
     private static void proving() {
-        promise = 16;
+        sentence("Promise 16");
         RegisterColours x = new RegisterColours();
         due("nothing left", x.proved(), NONE);
         String[] texts = {"", LOOP, PAIRS, RING, "out v0;out v1;v0=v1;out v0;goto 0;", "d0=d1;v0=low d0;out v0;d1=v0*v0;goto 0;",
@@ -564,7 +504,7 @@ public final class PromisesTest {
     // ---- 17 to 20 ----
 
     private static void graphs() {
-        promise = 17;
+        sentence("Promise 17");
         RegisterColours x = with(2, 1, 1, RING);
         row("graph(", new int[] {x.graph(0), x.graph(1), x.graph(2), x.graph(3)}, 0, NONE, 0, 2);
         x = with(4, 2, 1, PAIRS);
@@ -581,7 +521,7 @@ public final class PromisesTest {
     }
 
     private static void painting() {
-        promise = 18;
+        sentence("Promise 18");
         RegisterColours x = with(4, 2, 1, PAIRS);
         int[][] wrongOnes = {{24, 0}, {-1, 0}, {0, 8}, {0, -2}, {Integer.MAX_VALUE, 0}, {0, Integer.MIN_VALUE}};
         for (int[] w : wrongOnes) {
@@ -605,7 +545,7 @@ public final class PromisesTest {
     }
 
     private static void images() {
-        promise = 19;
+        sentence("Promise 19");
         RegisterColours x = with(2, 1, 2, "v0=7;v1=in;v2=call v1;out v0;out v2;");
         due("none yet", x.image(false), false);
         x.input(3, true);
@@ -648,7 +588,7 @@ public final class PromisesTest {
     }
 
     private static void looking() {
-        promise = 20;
+        sentence("Promise 20");
         RegisterColours x = with(5, 3, 2, "v0=in;v1=in;v2=call v1;w0=v0;d0=v0*v2;d1=d0;d1=d1;out w0;");
         x.input(1, true);
         x.paint(0, 0);
