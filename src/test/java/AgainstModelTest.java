@@ -13,6 +13,7 @@ public final class AgainstModelTest {
         int codes = args.length > 0 ? Integer.parseInt(args[0]) : 800;
         int seed = args.length > 1 ? Integer.parseInt(args[1]) : 7;
         compareLongOnes();
+        compareAllBeginnings();
         for (int i = 0; i < codes && wrong < 20; i++) {
             Random lot = new Random(seed * 1000003L + i);
             int k = 2 + lot.nextInt(7);
@@ -176,10 +177,34 @@ public final class AgainstModelTest {
     // ---- texts that may have FAULTS ----
 
     private static void compareText(Random lot) {
+        compareText(Lot.spoilt(lot));
+    }
+
+    private static void compareText(String text) {
         RegisterColours x = new RegisterColours();
         Twin twin = new Twin();
-        told = Lot.spoilt(lot);
+        told = text;
         tellBoth(x, twin);
         seen("fault " + twin.fault(0));
+    }
+
+    private static final String[] TOKENS = {"v", "w", "d", "if", "goto", "out", "in", "call", "low", "high", ";", "=", "<", "+", "-", "*", "0", "1", "2", "3",
+        "4", "7", "8", "23", "24", "40", "41", "9999", "10000", "x", "V", "?", "\t"};
+
+    /** Every LINE's every beginning with every token behind it, and the LINE's next token behind that. */
+    private static void compareAllBeginnings() {
+        for (String shape : Model.SHAPES) {
+            String[] tokens = shape.replace('#', '1').split(" ");
+            StringBuilder begun = new StringBuilder();
+            for (String right : tokens) {
+                for (String token : TOKENS) {
+                    compareText(begun + token);
+                    compareText(begun + token + " ;");
+                    compareText(begun + token + " " + right);
+                    compareText("out v0;".repeat(40) + begun + token + " " + right);
+                }
+                begun.append(right).append(' ');
+            }
+        }
     }
 }

@@ -214,6 +214,12 @@ public final class BoundsOfRoundsTest extends Asked {
         for (int k = 2; k <= 8; k++) {
             for (int c = 1; c <= k; c++) {
                 RegisterColours x = with(k, 1, c, "v0=in;v2=call v1;out v0;");
+                for (int i = 0; i < 5; i++) {
+                    due("v0 at STEP " + i, x.live(i, 8), i == 0 ? 0 : 1);
+                    due("v1 at STEP " + i, x.live(i, 9), i < 2 ? 1 : 0);
+                    due("r0 at STEP " + i, x.live(i, 0), i == 2 || i == 3 ? 1 : 0);
+                    due("r1 at STEP " + i, x.live(i, 1), 0);
+                }
                 for (int r = 0; r < k; r++) {
                     for (int q = 0; q < k; q++) {
                         due("edge(" + r + ", " + q + ")", x.edge(r, q), r == q ? 0 : 1);
@@ -251,6 +257,10 @@ public final class BoundsOfRoundsTest extends Asked {
             due("value(" + v + ", 0)", x.value(v, 0), v >= 3 && v < 8 ? NONE : there ? 1 : 0);
         }
         due("VALUES THERE (not FIXED)", x.look(6), 5);
+        for (int k = 2; k <= 8; k++) {
+            x = with(k, 2, k, "v1=call v1;");
+            row("K " + k + " ", new int[] {x.value(k - 1, 0), x.value(8, 0), x.value(9, 0), x.look(6)}, 1, 0, 1, 1);
+        }
     }
 
     private static void degrees() {
@@ -420,6 +430,10 @@ public final class BoundsOfRoundsTest extends Asked {
         x = with(8, 1, 1, "v1=call v0;v2=in;out v1;out v2;");
         due("ROUNDS", x.allocate(), 1);
         row("r0 has the EDGES of v1, too: ", colours(x, 0, 8, 9, 10), 0, 0, 1);
+        // v1 lives over the call, v0 does not; of both together none may have r0.
+        x = with(2, 1, 1, "v0=in;v1=v0;v3=call v4;out v1;");
+        due("ROUNDS", x.allocate(), 1);
+        row("v0 has the EDGE of v1 with r0, too: ", colours(x, 0, 8, 9, 11, 12), 1, 1, 0, 0);
         x = with(8, 1, 1, "v0=v0;d0=d0;w0=w0;");
         x.allocate();
         row("one node is not merged with itself: ", new int[] {x.left(5), x.left(6), x.left(7)}, 0, 3, 3);
@@ -598,9 +612,9 @@ public final class BoundsOfRoundsTest extends Asked {
         RegisterColours x = besideW1("w0=7;", 3, "if w0<w0 goto 6;w0=7;");
         due("STEPS", x.left(1), 6);
         due("to the end", x.step(5, true, 4), 6);
-        x = with(4, 1, 1, "goto 2;out v0;w0=7;w0=7;w1=in;out w1;out w1;out w1;out w0;");
+        x = with(4, 1, 1, "goto 3;out v0;w0=7;w0=7;w1=in;out w1;out w1;out w1;out w0;");
         due("ROUNDS", x.allocate(), 2);
-        due("two are gone: to w1 = in", x.step(0, true, 4), 2);
+        due("gone, as the one ahead of it: to w1 = in", x.step(0, true, 4), 2);
         due("w1 = in", x.step(2, true, 1), 33);
         // The STEP to which LINE 4 goes reads a SPILLED one: the jump goes to the load ahead of it.
         x = with(2, 1, 2, "v0=in;v1=in;out v0;v1=call v1;goto 2;");

@@ -59,6 +59,13 @@ public final class BoundsOfRunsTest extends Asked {
         for (int i = 0; i < 4; i++) {
             due("again", x.run(i % 2, 3), 0);
         }
+        // w0 has a SLOT, which the first run leaves full.
+        x = with(4, 1, 1, "out w0;w0=in;w1=in;out w1;out w1;out w1;out w0;");
+        due("ROUNDS", x.allocate(), 2);
+        for (int i = 1; i < 4; i++) {
+            x.input(1, true);
+            due("0 comes out first", x.run(1, 3), x.run(0, 3));
+        }
     }
 
     private static void wrapping() {
@@ -211,9 +218,32 @@ public final class BoundsOfRunsTest extends Asked {
         x.set(1, 1);
         due("gone", x.run(1, 0), NONE);
         due("RUN 0 can be", x.run(0, 0), 0);
+        sentence("RUN 0: THE CODE as STEPS of section 2");
+        tell(x, "out v0;out v0;v0=in;out v0;");
+        row("another code: ", runs(x, 0), 0, 4, 3, 0);
+        x.input(8, true);
+        row("another input: ", runs(x, 0), 0, 4, 3, 8);
+        x.image(true);
+        x.input(8, false);
+        row("no input: ", runs(x, 0), 0, 4, 3, 0);
+        x.image(false);
+        row("gone back: ", runs(x, 0), 0, 4, 3, 8);
+        x.allocate();
+        row("RUN 1: ", runs(x, 1), 0, 4, 3, 8);
+        tell(x, "out v0;");
+        x.allocate();
+        row("RUN 1 of another code: ", runs(x, 1), 0, 1, 1, 0);
     }
 
     private static void provedAsked() {
+        sentence("PROVED: each register that is read there holds the VALUE that is read (at the beginning: all)");
+        for (int m = 1; m <= 4; m++) {
+            // w0 is never made and is coloured last, so it has the last register.
+            RegisterColours last = with(8, m, 1, "w1=in;w2=in;w3=in;".substring(0, 6 * m - 6) + "out w0;" + "out w1;out w2;out w3;".substring(0, 7 * m - 7));
+            due("allocate()", last.allocate(), 1);
+            due("w0", last.colour(32, 0), m - 1);
+            due("proved(), M " + m, last.proved(), 1);
+        }
         sentence("proved: PROVED (1, 0). NONE if ALLOCATE left nothing");
         RegisterColours x = new RegisterColours();
         due("nothing", x.proved(), NONE);
@@ -391,6 +421,11 @@ public final class BoundsOfRunsTest extends Asked {
             case 6 -> x.paint(0, NONE);
             case 7 -> x.paint(23, 0);
             case 8 -> tell(x, "");
+            case 9 -> {
+                x.input(0, false);
+                x.input(77, true);
+                x.input(78, true);
+            }
             default -> {
                 x.set(1, 2);
                 x.allocate();
@@ -405,7 +440,7 @@ public final class BoundsOfRunsTest extends Asked {
         String before = everything(x);
         due("taken", x.image(true), true);
         due("as it was", everything(x), before);
-        for (int part = 0; part < 10; part++) {
+        for (int part = 0; part < 11; part++) {
             change(x, part);
             due("part " + part + " is another", everything(x).equals(before), false);
             due("gone back", x.image(false), true);
@@ -413,7 +448,7 @@ public final class BoundsOfRunsTest extends Asked {
             due("gone back once more", x.image(false), true);
             due("part " + part, everything(x), before);
         }
-        for (int part = 0; part < 10; part++) {
+        for (int part = 0; part < 11; part++) {
             change(x, part);
         }
         x.image(false);

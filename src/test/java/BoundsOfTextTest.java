@@ -253,6 +253,12 @@ public final class BoundsOfTextTest extends Asked {
         for (String text : behind) {
             fault(text, 1, 3);
         }
+        for (char c = 'A'; c <= 'z'; c++) {
+            boolean letter = c <= 'Z' || c >= 'a';
+            // A letter more makes another word of it, which is none; any other sign stands for itself behind it.
+            fault("v0=in" + c + ";", 1, letter ? 3 : 5);
+            fault("out" + c + " v0;", 1, letter ? 0 : 3);
+        }
         // A digit parts words as a blank does.
         sound("if v0<v1goto 0;", 1);
         sound("goto0;", 1);
@@ -315,6 +321,12 @@ public final class BoundsOfTextTest extends Asked {
                 fault("out v0;\n" + begun, 1, begun.length() + 8);
             }
         }
+        for (char c : ";=<+-*?7\0".toCharArray()) {
+            fault("v" + ("" + c).repeat(399), 1, 1);
+            fault(("" + c).repeat(400), 1, 0);
+        }
+        fault("=;".repeat(200), 1, 0);
+        fault("v0".repeat(200), 1, 2);
         String full = "out v0;".repeat(20) + " ".repeat(259) + "v";
         fault(full, 1, 400);
         sound(" ".repeat(395) + "v0=1;", 1);
@@ -334,7 +346,11 @@ public final class BoundsOfTextTest extends Asked {
             }
             fault(shape + " ;", 1, shape.length() + 1);
         }
-        fault(";", 1, 0);
+        // Where something is missing, it is the ';' that can't stand.
+        for (String text : new String[] {"", "v", "v0", "v0=", "w0=", "d0=", "d0=d", "v0=v1+", "w0=w1-", "d0=v1*", "v0=call", "v0=call v", "v0=low",
+            "v0=high", "if", "if v", "if v0", "if v0<", "if v0<v", "if v0<v1", "if v0<v1 goto", "goto", "out", "out w"}) {
+            fault(text + ";", 1, text.length());
+        }
         fault("v0=1;;", 1, 5);
         fault("5=v0;", 1, 0);
         fault("v0<v1;", 1, 2);

@@ -59,7 +59,7 @@ final class Model {
 
     // ---- the text ----
 
-    private static final String[] SHAPES = {
+    static final String[] SHAPES = {
         "v # = # ;", "v # = in ;", "v # = v # ;", "v # = w # ;",
         "w # = # ;", "w # = in ;", "w # = v # ;", "w # = w # ;", "d # = d # ;",
         "v # = v # + v # ;", "v # = v # - v # ;", "v # = v # * v # ;",

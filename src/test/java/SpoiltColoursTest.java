@@ -61,6 +61,13 @@ public final class SpoiltColoursTest extends Asked {
         due("not brought by +", spoilt(4, 1, "v0=in;v1=v0+v0;out v0;", 8, 2, 9, 2).proved(), 0);
         due("pairs", spoilt(4, 1, "v0=in;d0=v0*v0;d1=d0;v1=low d0;out v1;v1=low d1;", 40, 1, 41, 1, 9, 0).proved(), 1);
         due("pairs, one half of which is lost", spoilt(4, 1, "v0=in;d0=v0*v0;d1=d0;v1=low d0;out v1;v1=low d1;", 40, 1, 41, 1, 9, 3).proved(), 0);
+        String halves = "d0=v0*v0;d1=d0;out v5;v1=low d1;out v1;";
+        due("v5 under the lower half", spoilt(4, 1, halves, 40, 0, 41, 1, 13, 2).proved(), 0);
+        due("v5 under the higher half", spoilt(4, 1, halves, 40, 0, 41, 1, 13, 3).proved(), 0);
+        String moved = "d1=d0;out v5;v1=low d1;out v1;";
+        due("v5 in both of a half's registers", spoilt(4, 1, moved, 40, 0, 41, 1, 13, 2).proved(), 1);
+        due("v5 in both of a half's registers", spoilt(4, 1, moved, 40, 0, 41, 1, 13, 3).proved(), 1);
+        due("v5 lost in the lower half alone", spoilt(4, 1, "v3=in;out v3;d1=d0;out v5;v1=low d1;", 11, 0, 40, 0, 41, 1, 13, 2).proved(), 0);
         sentence("and no other register holds X");
         // v0 is made twice; its older copy in the register of v1 is not v0 any more.
         due("an older one", spoilt(4, 1, "v0=in;v1=v0;v0=in;out v0;out v1;", 8, 1, 9, 1).proved(), 0);
@@ -78,6 +85,7 @@ public final class SpoiltColoursTest extends Asked {
         String ways = "if w0<w1 goto 3;v0=in;goto 4;v1=in;out v0;";
         due("on one way v1 is over v0", spoilt(4, 1, ways, 8, 1, 9, 1).proved(), 0);
         due("on neither", spoilt(4, 1, ways, 8, 1, 9, 2).proved(), 1);
+        due("round the loop v1 is over v0", spoilt(4, 1, "out v0;v1=in;goto 0;", 8, 1, 9, 1).proved(), 0);
         sentence("1: it is so wherever one can come to; else 0");
         due("nobody comes to LINE 3", spoilt(4, 1, "v0=in;v1=in;goto 4;out v0;out v1;", 8, 1, 9, 1).proved(), 1);
     }
