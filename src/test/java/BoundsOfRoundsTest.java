@@ -434,6 +434,9 @@ public final class BoundsOfRoundsTest extends Asked {
         x = with(2, 1, 1, "v0=in;v1=v0;v3=call v4;out v1;");
         due("ROUNDS", x.allocate(), 1);
         row("v0 has the EDGE of v1 with r0, too: ", colours(x, 0, 8, 9, 11, 12), 1, 1, 0, 0);
+        // By that EDGE v3 and v4 can go with r0, though v0 is HEAVY.
+        due("merged", x.left(5), 3);
+        row("nodes ", colours(x, 2, 8, 9, 11, 12), 8, 8, 0, 0);
         x = with(8, 1, 1, "v0=v0;d0=d0;w0=w0;");
         x.allocate();
         row("one node is not merged with itself: ", new int[] {x.left(5), x.left(6), x.left(7)}, 0, 3, 3);
@@ -777,6 +780,12 @@ public final class BoundsOfRoundsTest extends Asked {
         x.allocate();
         // None of these is ever made, so none has an EDGE: all have register 0.
         row("read alone ", new int[] {x.left(8), x.left(9)}, 1, 1);
+        x = with(8, 4, 1, "v0=in;out v1;");
+        x.allocate();
+        row("made alone ", new int[] {x.left(8), x.colour(8, 0), x.colour(9, 0)}, 2, 1, 0);
+        x = with(8, 4, 1, "v1=in;if v1<v2 goto 2;w1=in;if w1<w2 goto 4;");
+        x.allocate();
+        row("read second alone ", new int[] {x.left(8), x.left(9), x.colour(9, 0), x.colour(10, 0)}, 2, 2, 1, 0);
         for (int m = 1; m <= 4; m++) {
             x = with(8, 4, 1, together('w', m));
             x.allocate();
