@@ -465,6 +465,12 @@ public final class BoundsOfRoundsTest extends Asked {
         due("ROUNDS", x.allocate(), 2);
         row("SPILLED ", colours(x, 1, 8, 9, 10, 11), 0, 1, 0, 0);
         due("COST", x.left(10), 4);
+        sentence("1000000 more for one that was made in ROUNDS");
+        // In ROUND 2 the load of v0 is LIVE with v1 and v2, which cost 3 each: still v1 is the one that goes.
+        x = with(2, 1, 1, "v0=in;v1=in;v2=in;out v0;out v1;out v1;out v2;out v2;");
+        due("ROUNDS", x.allocate(), 3);
+        row("SPILLED ", colours(x, 1, 8, 9, 10, 44, 45, 46), 1, 1, 0, 0, 0, 0);
+        row("left(", lefts(x), 3, 13, 2, 2, 0, 0, 0, 0, 2, 0, 5, 0);
         sentence("COST by DEGREE (as what is left is)");
         // v4 is not HEAVY and goes first; then v1 is 5 by 3, which is more than 3 by 2, though 5 by 4 was less.
         x = with(2, 1, 1, "v1=in;v4=in;out v4;v2=in;v0=in;" + "out v0;".repeat(2) + "v3=in;" + "out v3;".repeat(3) + "out v1;".repeat(4) + "out v2;".repeat(5));
