@@ -377,6 +377,19 @@ public final class RegisterColours {
         rows[from + (bit >> 6)] &= ~(1L << (bit & 63));
     }
 
+    /** The first bit at this one or behind it in a row of so many words, or NONE. */
+    private static int nextBit(long[] rows, int from, int words, int bit) {
+        long asked = -1L << (bit & 63);
+        for (int w = bit >> 6; w < words; w++) {
+            long found = rows[from + w] & asked;
+            if (found != 0L) {
+                return 64 * w + Long.bitCount((found & -found) - 1);
+            }
+            asked = -1L;
+        }
+        return NONE;
+    }
+
     /** A row of STEPS: of THE CODE, or of what a ROUND works on. */
     private static final class Steps {
         final int[] kind;
@@ -905,13 +918,18 @@ public final class RegisterColours {
         private final long[] live;
         private final long[] edges;
         private final long[] behind;
+        private final long[] fresh;
         private final long[] pairs;
+        private final long[] ofB;
+        private final boolean[] beginsLoop;
         // The VALUES that are THERE; while a ROUND merges them, those that still are nodes.
         final long[] there;
         final int[] weight;
         final int[] cost;
         int k = 0;
         int values = 0;
+        // How many words of each row the VALUES of this ROUND take.
+        private int inUse = 0;
         private int m = 0;
         private int clobbered = 0;
 
@@ -924,28 +942,36 @@ public final class RegisterColours {
             live = new long[(mostSteps + 1) * words];
             edges = new long[mostValues * words];
             behind = new long[words];
+            fresh = new long[words];
             pairs = new long[words];
+            ofB = new long[words];
+            beginsLoop = new boolean[mostSteps];
             there = new long[words];
             weight = new int[mostSteps];
             cost = new int[mostValues];
         }
 
         void draw(Told told, int itsValues) {
-            values = itsValues;
+            values = Math.min(itsValues, classes.length);
+            inUse = (values + 63) / 64;
             k = told.k;
             m = told.m;
             clobbered = told.clobbered;
             weigh();
             flowBackwards();
-            markPairs();
+            markClasses();
             connectAll();
             countCosts();
         }
 
         private void weigh() {
-            Arrays.fill(weight, 0);
+            for (int i = 0; i < steps.count; i++) {
+                weight[i] = 0;
+                beginsLoop[i] = false;
+            }
             for (int j = 0; j < steps.count; j++) {
-                if (steps.isJump(j)) {
+                if (steps.isJump(j) && steps.number[j] <= j) {
+                    beginsLoop[steps.number[j]] = true;
                     for (int i = steps.number[j]; i <= j; i++) {
                         weight[i]++;
                     }
@@ -972,7 +998,8 @@ public final class RegisterColours {
             for (int pass = 0; pass < MOST_PASSES && again; pass++) {
                 again = false;
                 for (int i = steps.count - 1; i >= 0; i--) {
-                    if (updateLive(i)) {
+                    // Only what jumps back to here stands behind it, and was gone through before it.
+                    if (updateLive(i) && beginsLoop[i]) {
                         again = true;
                     }
                 }
@@ -995,7 +1022,7 @@ public final class RegisterColours {
                 putBit(behind, 0, steps.two[i]);
             }
             boolean other = false;
-            for (int w = 0; w < words; w++) {
+            for (int w = 0; w < inUse; w++) {
                 other |= live[i * words + w] != behind[w];
                 live[i * words + w] = behind[w];
             }
@@ -1005,17 +1032,20 @@ public final class RegisterColours {
         private void takeBehind(int i) {
             int following = steps.following(i);
             int target = steps.jumpFrom(i);
-            for (int w = 0; w < words; w++) {
+            for (int w = 0; w < inUse; w++) {
                 long here = following < 0 ? 0L : live[following * words + w];
                 behind[w] = target < 0 ? here : here | live[target * words + w];
             }
         }
 
-        private void markPairs() {
+        private void markClasses() {
             Arrays.fill(pairs, 0L);
-            for (int x = 0; x < values; x++) {
+            Arrays.fill(ofB, 0L);
+            for (int x = FIRST_W; x < values; x++) {
                 if (classes[x] == CLASS_D) {
                     putBit(pairs, 0, x);
+                } else if (classes[x] == CLASS_B) {
+                    putBit(ofB, 0, x);
                 }
             }
         }
@@ -1031,21 +1061,25 @@ public final class RegisterColours {
                 takeBehind(i);
                 if (steps.kind[i] == KIND_CALL) {
                     for (int x = 0; x < clobbered; x++) {
-                        connectBehind(x, NONE);
+                        connectBehind(x, x);
                     }
                 } else if (steps.made[i] >= 0) {
-                    connectBehind(steps.made[i], steps.isMove(i, classes) ? steps.one[i] : NONE);
+                    connectBehind(steps.made[i], steps.isMove(i, classes) ? steps.one[i] : steps.made[i]);
                 }
             }
         }
 
+        /** Only EDGES that are new are gone through: most are met again and again. */
         private void connectBehind(int made, int moved) {
-            boolean ofB = classes[made] == CLASS_B;
-            for (int y = 0; y < values; y++) {
-                boolean meets = hasBit(behind, 0, y) && ofB == (classes[y] == CLASS_B);
-                if (meets && y != made && y != moved) {
-                    connect(made, y);
-                }
+            boolean makesB = classes[made] == CLASS_B;
+            for (int w = 0; w < inUse; w++) {
+                long alike = makesB ? ofB[w] : ~ofB[w];
+                fresh[w] = behind[w] & alike & ~edges[made * words + w];
+            }
+            dropBit(fresh, 0, made);
+            dropBit(fresh, 0, moved);
+            for (int y = nextBit(fresh, 0, inUse, 0); y != NONE; y = nextBit(fresh, 0, inUse, y + 1)) {
+                connect(made, y);
             }
         }
 
@@ -1093,6 +1127,11 @@ public final class RegisterColours {
             return hasBit(edges, x * words, y);
         }
 
+        /** The first neighbour of x at this number or behind it, or NONE. */
+        int nextNear(int x, int from) {
+            return nextBit(edges, x * words, inUse, from);
+        }
+
         int limitOf(int x) {
             if (classes[x] == CLASS_A) {
                 return k;
@@ -1108,7 +1147,7 @@ public final class RegisterColours {
         int degreeAmong(int x, long[] among) {
             boolean pairsTwice = classes[x] == CLASS_A;
             int degree = 0;
-            for (int w = 0; w < words; w++) {
+            for (int w = 0; w < inUse; w++) {
                 long near = edges[x * words + w] & among[w];
                 degree += Long.bitCount(near);
                 if (pairsTwice) {
@@ -1123,13 +1162,11 @@ public final class RegisterColours {
         }
 
         void merge(int stays, int goes) {
-            for (int x = 0; x < values; x++) {
-                if (hasEdge(goes, x)) {
-                    dropBit(edges, x * words, goes);
-                    connect(stays, x);
-                }
+            for (int x = nextNear(goes, 0); x != NONE; x = nextNear(goes, x + 1)) {
+                dropBit(edges, x * words, goes);
+                connect(stays, x);
             }
-            for (int w = 0; w < words; w++) {
+            for (int w = 0; w < inUse; w++) {
                 edges[goes * words + w] = 0L;
             }
             cost[stays] += cost[goes];
@@ -1276,7 +1313,7 @@ public final class RegisterColours {
             boolean safe = stays < FIRST_V ? isSafeWithFixed(stays, goes) : isSafe(stays, goes);
             if (safe) {
                 graph.merge(stays, goes);
-                for (int z = 0; z < MOST_VALUES; z++) {
+                for (int z = goes; z < graph.values; z++) {
                     if (nodeOf[z] == goes) {
                         nodeOf[z] = stays;
                     }
@@ -1288,24 +1325,28 @@ public final class RegisterColours {
 
         private boolean isSafe(int x, int y) {
             int heavy = 0;
-            for (int n = 0; n < graph.values; n++) {
-                boolean byX = graph.hasEdge(x, n);
-                boolean byY = graph.hasEdge(y, n);
-                if (byX || byY) {
-                    int less = byX && byY ? graph.countsFor(n, x) : 0;
-                    int degree = graph.degreeAmong(n, graph.there) - less;
-                    if (n < FIRST_V || degree >= graph.limitOf(n)) {
-                        heavy += graph.countsFor(x, n);
-                    }
+            for (int n = graph.nextNear(x, 0); n != NONE; n = graph.nextNear(x, n + 1)) {
+                heavy += heavyThen(n, x, graph.hasEdge(y, n));
+            }
+            for (int n = graph.nextNear(y, 0); n != NONE; n = graph.nextNear(y, n + 1)) {
+                if (!graph.hasEdge(x, n)) {
+                    heavy += heavyThen(n, y, false);
                 }
             }
             return heavy < graph.limitOf(x);
         }
 
+        /** What n counts for as a HEAVY neighbour of the merged node; 0 if it would be none. */
+        private int heavyThen(int n, int x, boolean ofBoth) {
+            int less = ofBoth ? graph.countsFor(n, x) : 0;
+            int degree = graph.degreeAmong(n, graph.there) - less;
+            boolean heavy = n < FIRST_V || degree >= graph.limitOf(n);
+            return heavy ? graph.countsFor(x, n) : 0;
+        }
+
         private boolean isSafeWithFixed(int fixed, int x) {
-            for (int n = FIRST_V; n < graph.values; n++) {
-                boolean asked = graph.hasEdge(x, n) && !graph.hasEdge(fixed, n);
-                if (asked && graph.isHeavy(n, graph.there)) {
+            for (int n = graph.nextNear(x, FIRST_V); n != NONE; n = graph.nextNear(x, n + 1)) {
+                if (!graph.hasEdge(fixed, n) && graph.isHeavy(n, graph.there)) {
                     return false;
                 }
             }
@@ -1323,6 +1364,8 @@ public final class RegisterColours {
         private final boolean[] takenHeavy = new boolean[MOST_VALUES];
         private int takenCount = 0;
         private final long[] remaining;
+        // Of each node, as what is left is.
+        private final int[] degree = new int[MOST_VALUES];
         private final Graph graph;
 
         Colourer(Graph itsGraph) {
@@ -1332,6 +1375,9 @@ public final class RegisterColours {
 
         void layAll() {
             System.arraycopy(graph.there, 0, remaining, 0, remaining.length);
+            for (int x = nextLeft(FIRST_V); x != NONE; x = nextLeft(x + 1)) {
+                degree[x] = graph.degreeAmong(x, remaining);
+            }
             takenCount = 0;
             for (int round = 0; round < MOST_VALUES; round++) {
                 int x = leastLight();
@@ -1342,16 +1388,27 @@ public final class RegisterColours {
                 if (x == NONE) {
                     return;
                 }
-                dropBit(remaining, 0, x);
+                takeOut(x);
                 taken[takenCount] = x;
                 takenHeavy[takenCount] = heavy;
                 takenCount++;
             }
         }
 
+        private int nextLeft(int from) {
+            return nextBit(remaining, 0, remaining.length, from);
+        }
+
+        private void takeOut(int x) {
+            dropBit(remaining, 0, x);
+            for (int n = graph.nextNear(x, FIRST_V); n != NONE; n = graph.nextNear(x, n + 1)) {
+                degree[n] -= graph.countsFor(n, x);
+            }
+        }
+
         private int leastLight() {
-            for (int x = FIRST_V; x < graph.values; x++) {
-                if (hasBit(remaining, 0, x) && !graph.isHeavy(x, remaining)) {
+            for (int x = nextLeft(FIRST_V); x != NONE; x = nextLeft(x + 1)) {
+                if (degree[x] < graph.limitOf(x)) {
                     return x;
                 }
             }
@@ -1360,20 +1417,17 @@ public final class RegisterColours {
 
         private int cheapest() {
             int best = NONE;
-            long bestCost = 0;
-            long bestDegree = 1;
-            for (int x = FIRST_V; x < graph.values; x++) {
-                if (hasBit(remaining, 0, x)) {
-                    long degree = graph.degreeAmong(x, remaining);
-                    long cost = graph.cost[x];
-                    if (best == NONE || cost * bestDegree < bestCost * degree) {
-                        best = x;
-                        bestCost = cost;
-                        bestDegree = degree;
-                    }
+            for (int x = nextLeft(FIRST_V); x != NONE; x = nextLeft(x + 1)) {
+                if (best == NONE || isCheaper(x, best)) {
+                    best = x;
                 }
             }
             return best;
+        }
+
+        /** Fractions are compared across, so that nothing is rounded. */
+        private boolean isCheaper(int x, int than) {
+            return (long) graph.cost[x] * degree[than] < (long) graph.cost[than] * degree[x];
         }
 
         void colourAll() {
@@ -1397,8 +1451,8 @@ public final class RegisterColours {
 
         private int leastFree(int x) {
             int used = 0;
-            for (int n = 0; n < graph.values; n++) {
-                if (register[n] != NONE && graph.hasEdge(x, n)) {
+            for (int n = graph.nextNear(x, 0); n != NONE; n = graph.nextNear(x, n + 1)) {
+                if (register[n] != NONE) {
                     used |= Left.registerBits(graph.classes[n], register[n]);
                 }
             }
@@ -1728,6 +1782,10 @@ public final class RegisterColours {
         private static final int NOT_REACHED = -1;
 
         private final int[] ahead = new int[MOST_STEPS];
+        // The registers that a STEP makes, and those from which a MOVE brings what they held.
+        private final int[] to = new int[MOST_STEPS];
+        private final int[] from = new int[MOST_STEPS];
+        private final boolean[] isRead = new boolean[MOST_VALUES];
         private final Left left;
         private final Steps steps;
         private int clobberedBits = 0;
@@ -1739,21 +1797,36 @@ public final class RegisterColours {
 
         boolean holdsEverywhere(int clobbered) {
             clobberedBits = (1 << clobbered) - 1;
+            markRegisters();
+            markRead();
             for (int x = 0; x < left.values; x++) {
-                if (isRead(x) && !holdsWhereRead(x)) {
+                if (isRead[x] && !holdsWhereRead(x)) {
                     return false;
                 }
             }
             return true;
         }
 
-        private boolean isRead(int x) {
+        private void markRegisters() {
             for (int i = 0; i < steps.count; i++) {
-                if (reads(i, x)) {
-                    return true;
+                boolean moves = steps.isMove(i, left.classes);
+                to[i] = left.registersOf(steps.made[i]);
+                from[i] = moves ? left.registersOf(steps.one[i]) : 0;
+            }
+        }
+
+        private void markRead() {
+            for (int x = 0; x < MOST_VALUES; x++) {
+                isRead[x] = false;
+            }
+            for (int i = 0; i < steps.count; i++) {
+                if (steps.one[i] >= 0) {
+                    isRead[steps.one[i]] = true;
+                }
+                if (steps.two[i] >= 0) {
+                    isRead[steps.two[i]] = true;
                 }
             }
-            return false;
         }
 
         private boolean reads(int i, int x) {
@@ -1780,8 +1853,10 @@ public final class RegisterColours {
                 for (int i = 0; i < steps.count; i++) {
                     if (ahead[i] != NOT_REACHED) {
                         int behind = holdersBehind(i, x);
-                        again |= meet(steps.following(i), behind);
-                        again |= meet(steps.jumpFrom(i), behind);
+                        int target = steps.jumpFrom(i);
+                        meet(steps.following(i), behind);
+                        // What stands behind it in the row this pass comes to yet.
+                        again |= target >= 0 && meet(target, behind) && target <= i;
                     }
                 }
             }
@@ -1799,20 +1874,14 @@ public final class RegisterColours {
 
         private int holdersBehind(int i, int x) {
             int holders = ahead[i];
-            int made = steps.made[i];
             if (steps.kind[i] == KIND_CALL) {
                 return x == 0 ? 1 : holders & ~clobberedBits;
             }
-            if (made < 0) {
-                return holders;
+            if (steps.made[i] == x) {
+                return to[i];
             }
-            if (made == x) {
-                return left.registersOf(x);
-            }
-            int to = left.registersOf(made);
-            boolean moves = steps.isMove(i, left.classes);
-            int brought = moves ? broughtBy(left.registersOf(steps.one[i]), to, holders) : 0;
-            return holders & ~to | brought;
+            int brought = (holders & from[i]) == 0 ? 0 : broughtBy(from[i], to[i], holders);
+            return holders & ~to[i] | brought;
         }
 
         /** The registers to which a MOVE brings the VALUE; of pairs half by half. */
