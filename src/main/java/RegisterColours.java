@@ -377,17 +377,17 @@ public final class RegisterColours {
         rows[from + (bit >> 6)] &= ~(1L << (bit & 63));
     }
 
-    /** The first bit at this one or behind it in a row of so many words, or NONE. */
-    private static int nextBit(long[] rows, int from, int words, int bit) {
+    /** The first bit at this one or behind it in a row of so many bits; that many if there is none. */
+    private static int nextBit(long[] rows, int from, int bits, int bit) {
         long asked = -1L << (bit & 63);
-        for (int w = bit >> 6; w < words; w++) {
+        for (int w = bit >> 6; 64 * w < bits; w++) {
             long found = rows[from + w] & asked;
             if (found != 0L) {
                 return 64 * w + Long.bitCount((found & -found) - 1);
             }
             asked = -1L;
         }
-        return NONE;
+        return bits;
     }
 
     /** A row of STEPS: of THE CODE, or of what a ROUND works on. */
@@ -1078,7 +1078,7 @@ public final class RegisterColours {
             }
             dropBit(fresh, 0, made);
             dropBit(fresh, 0, moved);
-            for (int y = nextBit(fresh, 0, inUse, 0); y != NONE; y = nextBit(fresh, 0, inUse, y + 1)) {
+            for (int y = nextBit(fresh, 0, values, 0); y < values; y = nextBit(fresh, 0, values, y + 1)) {
                 connect(made, y);
             }
         }
@@ -1127,9 +1127,9 @@ public final class RegisterColours {
             return hasBit(edges, x * words, y);
         }
 
-        /** The first neighbour of x at this number or behind it, or NONE. */
+        /** The first neighbour of x at this number or behind it; as many as there are VALUES if there is none. */
         int nextNear(int x, int from) {
-            return nextBit(edges, x * words, inUse, from);
+            return nextBit(edges, x * words, values, from);
         }
 
         int limitOf(int x) {
@@ -1162,7 +1162,7 @@ public final class RegisterColours {
         }
 
         void merge(int stays, int goes) {
-            for (int x = nextNear(goes, 0); x != NONE; x = nextNear(goes, x + 1)) {
+            for (int x = nextNear(goes, 0); x < values; x = nextNear(goes, x + 1)) {
                 dropBit(edges, x * words, goes);
                 connect(stays, x);
             }
@@ -1325,10 +1325,10 @@ public final class RegisterColours {
 
         private boolean isSafe(int x, int y) {
             int heavy = 0;
-            for (int n = graph.nextNear(x, 0); n != NONE; n = graph.nextNear(x, n + 1)) {
+            for (int n = graph.nextNear(x, 0); n < graph.values; n = graph.nextNear(x, n + 1)) {
                 heavy += heavyThen(n, x, graph.hasEdge(y, n));
             }
-            for (int n = graph.nextNear(y, 0); n != NONE; n = graph.nextNear(y, n + 1)) {
+            for (int n = graph.nextNear(y, 0); n < graph.values; n = graph.nextNear(y, n + 1)) {
                 if (!graph.hasEdge(x, n)) {
                     heavy += heavyThen(n, y, false);
                 }
@@ -1345,7 +1345,7 @@ public final class RegisterColours {
         }
 
         private boolean isSafeWithFixed(int fixed, int x) {
-            for (int n = graph.nextNear(x, FIRST_V); n != NONE; n = graph.nextNear(x, n + 1)) {
+            for (int n = graph.nextNear(x, FIRST_V); n < graph.values; n = graph.nextNear(x, n + 1)) {
                 if (!graph.hasEdge(fixed, n) && graph.isHeavy(n, graph.there)) {
                     return false;
                 }
@@ -1375,7 +1375,7 @@ public final class RegisterColours {
 
         void layAll() {
             System.arraycopy(graph.there, 0, remaining, 0, remaining.length);
-            for (int x = nextLeft(FIRST_V); x != NONE; x = nextLeft(x + 1)) {
+            for (int x = nextLeft(FIRST_V); x < graph.values; x = nextLeft(x + 1)) {
                 degree[x] = graph.degreeAmong(x, remaining);
             }
             takenCount = 0;
@@ -1396,18 +1396,18 @@ public final class RegisterColours {
         }
 
         private int nextLeft(int from) {
-            return nextBit(remaining, 0, remaining.length, from);
+            return nextBit(remaining, 0, graph.values, from);
         }
 
         private void takeOut(int x) {
             dropBit(remaining, 0, x);
-            for (int n = graph.nextNear(x, FIRST_V); n != NONE; n = graph.nextNear(x, n + 1)) {
+            for (int n = graph.nextNear(x, FIRST_V); n < graph.values; n = graph.nextNear(x, n + 1)) {
                 degree[n] -= graph.countsFor(n, x);
             }
         }
 
         private int leastLight() {
-            for (int x = nextLeft(FIRST_V); x != NONE; x = nextLeft(x + 1)) {
+            for (int x = nextLeft(FIRST_V); x < graph.values; x = nextLeft(x + 1)) {
                 if (degree[x] < graph.limitOf(x)) {
                     return x;
                 }
@@ -1417,7 +1417,7 @@ public final class RegisterColours {
 
         private int cheapest() {
             int best = NONE;
-            for (int x = nextLeft(FIRST_V); x != NONE; x = nextLeft(x + 1)) {
+            for (int x = nextLeft(FIRST_V); x < graph.values; x = nextLeft(x + 1)) {
                 if (best == NONE || isCheaper(x, best)) {
                     best = x;
                 }
@@ -1451,7 +1451,7 @@ public final class RegisterColours {
 
         private int leastFree(int x) {
             int used = 0;
-            for (int n = graph.nextNear(x, 0); n != NONE; n = graph.nextNear(x, n + 1)) {
+            for (int n = graph.nextNear(x, 0); n < graph.values; n = graph.nextNear(x, n + 1)) {
                 if (register[n] != NONE) {
                     used |= Left.registerBits(graph.classes[n], register[n]);
                 }

@@ -96,14 +96,15 @@ public final class RulesTest {
         String code = text.replaceAll("(?s)/\\*.*?\\*/", "").replaceAll("//[^\n]*", "");
         Matcher imports = Pattern.compile("(?m)^import ([^;]+);").matcher(code);
         while (imports.find()) {
-            must(imports.group(1).equals("java.util.Arrays"), "import " + imports.group(1));
+            must(imports.group(1).matches("java\\.util\\.(Arrays|ArrayList|List|Iterator)"), "import " + imports.group(1));
         }
         for (String word : List.of("throw", "throws", "try", "catch", "synchronized", "assert", "package", "protected",
-                "System\\.(?!arraycopy)\\w+", "\\w+Exact", "double", "float", "equals", "hashCode", "toString", "volatile")) {
+                "System\\.(?!arraycopy)\\w+", "\\w+Exact", "hashCode", "volatile", "native", "Thread", "Runtime", "Random")) {
             must(!Pattern.compile("\\b" + word + "\\b").matcher(code).find(), "the word " + word);
         }
-        must(!code.contains("->") && !code.contains("::"), "a lambda or a method reference");
-        must(!Pattern.compile("Arrays\\.(?!fill\\b)").matcher(code).find(), "another function of Arrays");
+        String withoutCases = code.replaceAll("(?m)^\\s*(case\\b[^:>]*|default\\s*)->", "");
+        must(!withoutCases.contains("->") && !code.contains("::"), "a lambda or a method reference");
+        must(!Pattern.compile("Arrays\\.(?!(fill|copyOf|copyOfRange)\\b)").matcher(code).find(), "another function of Arrays");
         must(text.chars().allMatch(c -> c == 10 || c >= 32 && c < 127), "a sign that is not plain");
         methodLengths(code);
     }
@@ -124,26 +125,32 @@ public final class RulesTest {
         }
     }
 
-    // ---- the room: what one object holds, and that calls make nothing more ----
+    // ---- the room: 600,000 objects and 7.3 million fields and elements for all calls of one run ----
+
+    private static final int CALLS = 512;
+    private static final int MOST_OBJECTS = 600_000;
+    private static final int MOST_ELEMENTS = 7_300_000;
 
     private static void room() throws Exception {
         RegisterColours x = new RegisterColours();
-        long[] fresh = count(x);
-        must(fresh[0] < 100 && fresh[1] < 8000, "a new object: " + fresh[0] + " objects, " + fresh[1] + " elements");
         useAll(x);
         long[] used = count(x);
-        must(used[0] < 200 && used[1] < 25000, "a used object: " + used[0] + " objects, " + used[1] + " elements");
+        // A run may make an object at every fourth call, and each may be told and asked all.
+        long objects = CALLS / 4 * used[0];
+        long elements = CALLS / 4 * used[1];
+        must(objects < MOST_OBJECTS && elements < MOST_ELEMENTS, "used objects: " + used[0] + " objects, " + used[1] + " elements each");
         com.sun.management.ThreadMXBean bean = (com.sun.management.ThreadMXBean) ManagementFactory.getThreadMXBean();
         int[][] fives = Lot.fives(TEXT).toArray(new int[0][]);
         for (int i = 0; i < 50; i++) {
             useAgain(x, fives);
         }
         long before = bean.getCurrentThreadAllocatedBytes();
-        for (int i = 0; i < 200; i++) {
+        for (int i = 0; i < CALLS; i++) {
             useAgain(x, fives);
         }
+        // What calls make is thrown away by this machine, but not in the room; an element has a byte at least.
         long made = bean.getCurrentThreadAllocatedBytes() - before;
-        must(made < 20000, "200 times all calls made " + made + " bytes");
+        must(made < MOST_ELEMENTS, CALLS + " times all calls made " + made + " bytes");
     }
 
     private static final String TEXT = "v0=in;v1=in;v2=in;w0=in;w1=w0;d0=v0*v1;v3=call v2;if v0<v1 goto 3;v4=low d0;v5=v4+v3;out v5;out w1;out v1;out v0;";

@@ -11,6 +11,10 @@ public final class SpoiltColoursTest extends Asked {
     private static final int[] SEEN = new int[2];
 
     public static void main(String[] args) throws ReflectiveOperationException {
+        if (!holdsColoursInLeft()) {
+            System.out.println("not asked: this program holds its colours in another way");
+            return;
+        }
         byHand();
         clobberedByHand();
         int codes = args.length > 0 ? Integer.parseInt(args[0]) : 1500;
@@ -20,6 +24,16 @@ public final class SpoiltColoursTest extends Asked {
         sentence("1: it is so wherever one can come to; else 0");
         due("both answers were seen", SEEN[0] > codes / 20 && SEEN[1] > codes / 20, true);
         endOfTest();
+    }
+
+    /** How the state is held is free: a program without a class Left can't be spoilt by this test. */
+    private static boolean holdsColoursInLeft() {
+        for (Class<?> inside : RegisterColours.class.getDeclaredClasses()) {
+            if (inside.getSimpleName().equals("Left")) {
+                return true;
+            }
+        }
+        return false;
     }
 
     private static int[] registersOf(RegisterColours x) throws ReflectiveOperationException {
